@@ -1352,10 +1352,10 @@ public final class WhoCommands {
 
         /** Keeps what a PERSON in a form has by each KEY of a LAW. */
         void weigh(Facts facts, Law law, int form) {
-            clauses = Math.min(law.kinds.length, CLAUSES);
-            if (form < 0 || form >= 2 * PEOPLE) {
+            if (law == null || form < 0 || form >= 2 * PEOPLE) {
                 return;
             }
+            clauses = Math.min(law.kinds.length, CLAUSES);
             int person = form >> 1;
             for (int clause = 0; clause < clauses; clause++) {
                 int value = 0;
