@@ -3,6 +3,7 @@ import java.nio.charset.StandardCharsets;
 import java.nio.file.Files;
 import java.nio.file.Path;
 import java.util.ArrayList;
+import java.util.Arrays;
 import java.util.List;
 
 /** The words of ../shared/DOC.md, and which of them a test has named. */
@@ -26,7 +27,7 @@ final class Document {
         int name(String words) {
             int times = 0;
             for (int at = text.indexOf(words); at >= 0; at = text.indexOf(words, at + 1)) {
-                java.util.Arrays.fill(named, at, at + words.length(), true);
+                Arrays.fill(named, at, at + words.length(), true);
                 times++;
             }
             return times;

@@ -73,6 +73,11 @@ final class Edges {
         WhoCommands one = told();
         WhoCommands twin = told();
         due(what, call.on(one), want);
+        alike(what, one, twin);
+    }
+
+    /** Behind something that the one was told, both answer the same. */
+    void alike(String what, WhoCommands one, WhoCommands twin) {
         List<String> behind = Probes.answers(one);
         List<String> without = Probes.answers(twin);
         for (int i = 0; i < Math.max(behind.size(), without.size()); i++) {

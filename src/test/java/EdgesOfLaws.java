@@ -1,3 +1,6 @@
+import java.util.Arrays;
+import java.util.Locale;
+
 /** Terms, part II, as far as it tells the language of LAWS, and promises 9 to 12. */
 final class EdgesOfLaws {
     private static final int NONE = WhoCommands.NONE;
@@ -249,7 +252,7 @@ final class EdgesOfLaws {
     }
 
     private static boolean isOneOf(String[] all, String word) {
-        return java.util.Arrays.asList(all).contains(word);
+        return Arrays.asList(all).contains(word);
     }
 
     private void keys() {
@@ -392,7 +395,7 @@ final class EdgesOfLaws {
             good("bar " + word + "=" + word);
             fault("bar " + word + "s=1", 4, 0);
             fault("bar " + word.substring(0, word.length() - 1) + "=1", 4, 0);
-            fault("bar 1=" + word.toUpperCase(java.util.Locale.ROOT), 6, 0);
+            fault("bar 1=" + word.toUpperCase(Locale.ROOT), 6, 0);
         }
         for (String word : new String[] {"list", "first", "bar", "lapse", "if", "and", "or", "a", "z", "body"}) {
             fault("bar " + word + "=1", 4, 0);

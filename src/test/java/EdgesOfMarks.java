@@ -28,12 +28,7 @@ final class EdgesOfMarks {
         WhoCommands twin = new WhoCommands();
         Worlds.rich(twin);
         twin.mark(0);
-        java.util.List<String> got = Probes.answers(x);
-        java.util.List<String> want = Probes.answers(twin);
-        for (int i = 0; i < want.size(); i++) {
-            edges.due("behind " + what + ": " + got.get(i) + ", never told " + want.get(i),
-                    got.get(i).equals(want.get(i)), true);
-        }
+        edges.alike(what, x, twin);
     }
 
     private void eachIsKept() {
