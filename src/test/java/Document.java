@@ -6,7 +6,7 @@ import java.util.ArrayList;
 import java.util.Arrays;
 import java.util.List;
 
-/** The words of ../shared/DOC.md, and which of them a test has named. */
+/** The words of ../shared/DOC.md, which of them a test has named, and the face that it shows. */
 final class Document {
     private static final Path FILE = Path.of("../shared/DOC.md");
     private static final int PROMISES = 37;
@@ -48,12 +48,18 @@ final class Document {
         }
     }
 
+    private final List<String> face = new ArrayList<>();
     private final Part use;
     private final Part terms;
     private final Part[] promises = new Part[PROMISES + 1];
 
     Document() throws IOException {
         String whole = new String(Files.readAllBytes(FILE), StandardCharsets.UTF_8);
+        for (String line : between(whole, "## The public face", "## Terms").split("\n")) {
+            if (line.trim().startsWith("public ")) {
+                face.add(line.trim());
+            }
+        }
         use = new Part("What it is", plain(between(whole, "==== I.", "## The public face")));
         terms = new Part("Terms", plain(between(whole, "## Terms", "## Promise 1:")));
         for (int n = 1; n <= PROMISES; n++) {
@@ -72,6 +78,11 @@ final class Document {
     private static String plain(String text) {
         return text.replace("```text", " ").replaceAll("==== [IV]+\\.", " ").replace("`", "")
                 .replaceAll("\\s+", " ").trim();
+    }
+
+    /** The lines of the public face, as they stand there. */
+    List<String> face() {
+        return face;
     }
 
     int nameUse(String words) {

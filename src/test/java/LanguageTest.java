@@ -1,5 +1,4 @@
 import java.io.IOException;
-import java.lang.reflect.Constructor;
 import java.lang.reflect.Field;
 import java.lang.reflect.Method;
 import java.lang.reflect.Modifier;
@@ -12,6 +11,8 @@ import java.util.TreeSet;
 /** The rules of ../shared/LANGUAGE.md that can be seen without understanding the program. */
 public final class LanguageTest {
     private static final Check CHECK = new Check();
+    private static final int LINES_OF_METHOD = 60;
+    private static final int CALLS_DEEP = 8;
     private static final String[] NO_WORDS = {"throw", "throws", "try", "catch", "finally", "synchronized", "assert",
         "protected", "native", "volatile", "transient", "package", "System.out", "System.in", "Thread", "Random",
         "Object", "hashCode", "toString", "Exact", "var", "yield"};
@@ -21,7 +22,7 @@ public final class LanguageTest {
         return source.replaceAll("(?s)/\\*.*?\\*/", "").replaceAll("//[^\n]*", "");
     }
 
-    private static void source() throws IOException {
+    private static String source() throws IOException {
         byte[] bytes = Files.readAllBytes(Path.of("src/main/java/WhoCommands.java"));
         for (byte b : bytes) {
             if (b < 0) {
@@ -41,6 +42,7 @@ public final class LanguageTest {
                 CHECK.due("the program has " + line, line.equals("import java.util.Arrays;"), true);
             }
         }
+        return code;
     }
 
     private static Set<String> namesOfFace() {
@@ -50,25 +52,31 @@ public final class LanguageTest {
     }
 
     private static void face() {
-        CHECK.due("the class is public and final", WhoCommands.class.getModifiers(), Modifier.PUBLIC | Modifier.FINAL);
-        Set<String> names = new TreeSet<>();
         for (Method method : WhoCommands.class.getDeclaredMethods()) {
-            if (Modifier.isPublic(method.getModifiers())) {
-                CHECK.due("two public methods " + method.getName(), names.add(method.getName()), true);
-            } else {
-                CHECK.due(method + " is private", Modifier.isPrivate(method.getModifiers()), true);
-                CHECK.due(method + " bears a public name", namesOfFace().contains(method.getName()), false);
-            }
+            boolean isPublic = Modifier.isPublic(method.getModifiers());
+            CHECK.due(method + " is public or private", isPublic || Modifier.isPrivate(method.getModifiers()), true);
+            CHECK.due(method + " bears a public name", namesOfFace().contains(method.getName()), isPublic);
             CHECK.due(method + " takes too much", method.getParameterCount() <= 7, true);
-        }
-        CHECK.due("the methods are those of the document", names.equals(namesOfFace()), true);
-        for (Constructor<?> constructor : WhoCommands.class.getDeclaredConstructors()) {
-            CHECK.due(constructor + " takes nothing", constructor.getParameterCount(), 0);
         }
         for (Field field : WhoCommands.class.getDeclaredFields()) {
             boolean isNone = field.getName().equals("NONE");
             CHECK.due(field + " is private", Modifier.isPrivate(field.getModifiers()), !isNone);
+            CHECK.due(field + " is static and not final",
+                    Modifier.isStatic(field.getModifiers()) && !Modifier.isFinal(field.getModifiers()), false);
         }
+    }
+
+    private static void methods(String code) {
+        SourceMethods methods = new SourceMethods(code);
+        for (String name : methods.names()) {
+            CHECK.due(name + " is short", methods.lines(name) <= LINES_OF_METHOD, true);
+        }
+        for (String name : namesOfFace()) {
+            CHECK.due(name + " is a method of the source", methods.lines(name) > 0, true);
+            CHECK.due(methods.deepest(name) + " is not too deep", methods.deepest(name).size() <= CALLS_DEEP, true);
+        }
+        CHECK.due("the methods called one by the other from bound on: " + methods.deepest("bound"),
+                methods.deepest("bound").size() > 3, true);
     }
 
     private static void classesInside() {
@@ -92,7 +100,7 @@ public final class LanguageTest {
     }
 
     public static void main(String[] args) throws IOException {
-        source();
+        methods(source());
         face();
         classesInside();
         CHECK.end("LanguageTest");
